@@ -1,0 +1,56 @@
+/** Compares answers with those that are due, prints each that differs, and ends the test. */
+final class Answers {
+    private int wrong = 0;
+    private int asked = 0;
+
+    void due(String call, long got, long want) {
+        asked++;
+        if (got != want) {
+            wrong++;
+            System.out.println(call + " answered " + got + ", due is " + want);
+        }
+    }
+
+    void due(String call, boolean got, boolean want) {
+        asked++;
+        if (got != want) {
+            wrong++;
+            System.out.println(call + " answered " + got + ", due is " + want);
+        }
+    }
+
+    /**
+     * All that can be seen of the first n nodes, to see that a refusal changes nothing. (With four
+     * nodes that is some 170 calls: two pictures stay within the calls that an object is good for.)
+     */
+    static String picture(SliceVoting s, int n) {
+        StringBuilder text = new StringBuilder();
+        for (int v = 0; v < n; v++) {
+            text.append(s.voted(v)).append(' ').append(s.accepted(v)).append(' ');
+            text.append(s.confirmed(v)).append(' ').append(s.counter(v)).append(' ');
+            text.append(s.value(v)).append(' ').append(s.decided(v)).append(' ');
+            for (int w = 0; w < n; w++) {
+                text.append(s.known(v, w, false)).append(' ').append(s.known(v, w, true));
+                text.append(s.intertwined(v, w) ? " y " : " n ");
+            }
+        }
+        for (int set = 0; set < 1 << n; set++) {
+            text.append(s.quorum(set) ? 'q' : '-').append(s.largest(set)).append(' ');
+            for (int v = 0; v < n; v++) {
+                text.append(s.blocks(set, v) ? 'b' : '-');
+            }
+        }
+        return text.toString();
+    }
+
+    void same(String what, SliceVoting s, int n, String picture) {
+        due(what + " changes nothing", picture(s, n).equals(picture), true);
+    }
+
+    void end() {
+        System.out.println(asked + " answers, " + wrong + " not as due");
+        if (wrong != 0 || asked == 0) {
+            System.exit(1);
+        }
+    }
+}

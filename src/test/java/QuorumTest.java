@@ -164,6 +164,8 @@ final class QuorumTest {
         answers.due("3 of 4", s.intertwined(0, 1), true);
         s.corrupt(3);
         answers.due("3 of 4, one ill-behaved", s.intertwined(0, 1), true);
+        answers.due("3 of 4, with the ill-behaved one", s.intertwined(0, 3), false);
+        answers.due("3 of 4, with the ill-behaved one, the other way", s.intertwined(3, 0), false);
         s.corrupt(2);
         answers.due("3 of 4, two ill-behaved", s.intertwined(0, 1), false);
         SliceVoting half = Networks.allTrustAll(4, 2);

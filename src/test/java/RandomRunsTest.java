@@ -8,7 +8,7 @@ import java.util.TreeSet;
  * document's words one by one: it lists quorums by trying every set and holds sets as sets.
  */
 final class RandomRunsTest {
-    private static final int RUNS = 12000;
+    private static final int RUNS = 6000;
     private static final int MOST_CALLS = 512;
     private static final Answers answers = new Answers();
     private static int decisions = 0;

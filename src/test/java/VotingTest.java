@@ -27,6 +27,7 @@ final class VotingTest {
         leastFirst();
         voteForCommitNeedsItsOwnBallot();
         voteForCommitIsLeftWhenContradicted();
+        longestSettling();
         firstDecision();
         illBehavedKeeps();
         noNode();
@@ -315,6 +316,15 @@ final class VotingTest {
         t.deliver(2, 0);
         answers.due("a quorum", t.accepted(0) & prepare(1, 0), prepare(1, 0));
 
+        SliceVoting mixed = Networks.allTrustAll(4, 3);
+        mixed.corrupt(1);
+        mixed.corrupt(2);
+        mixed.propose(0, 1, 2);
+        mixed.say(1, 0, 0, prepare(1, 2));
+        answers.due("its own vote and one that accepted", mixed.accepted(0), 0);
+        mixed.say(2, 0, prepare(1, 2), 0);
+        answers.due("two votes and one that accepted without a vote", mixed.accepted(0), prepare(1, 2));
+
         SliceVoting ownVoteOnly = new SliceVoting(3);
         Networks.top(ownVoteOnly, 0, 2, 3);
         Networks.top(ownVoteOnly, 1, 1, 2);
@@ -406,6 +416,7 @@ final class VotingTest {
         s.deliver(0, 1);
         answers.due("accepted", s.accepted(1), prepare(1, 0));
         answers.due("only itself is known to have accepted", s.confirmed(1), 0);
+        answers.due("an accepted PREPARE is no reason to vote for COMMIT", s.voted(1), prepare(1, 0));
         s.deliver(1, 0);
         answers.due("two accepted", s.confirmed(0), prepare(1, 0));
         answers.due("it votes for COMMIT", s.voted(0), prepare(1, 0) | commit(1, 0));
@@ -471,6 +482,17 @@ final class VotingTest {
         t.say(0, 1, 0, prepare(1, 0));
         answers.due("confirmed", t.confirmed(1), prepare(1, 0) | prepare(2, 1));
         answers.due("an accepted PREPARE hinders the vote", t.voted(1), prepare(1, 0));
+    }
+
+    private static void longestSettling() {
+        SliceVoting s = Networks.puppet();
+        s.propose(1, 4, 2);
+        s.say(0, 1, 0, -1);
+        answers.due("accepted", s.accepted(1), 0xFFF | commit(4, 2));
+        answers.due("confirmed", s.confirmed(1), 0xFFF | commit(4, 2));
+        answers.due("voted", s.voted(1),
+            prepare(1, 2) | prepare(2, 2) | prepare(3, 2) | prepare(4, 2) | commit(4, 2));
+        answers.due("decided", s.decided(1), 2);
     }
 
     private static void firstDecision() {

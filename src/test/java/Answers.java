@@ -2,20 +2,41 @@
 final class Answers {
     private int wrong = 0;
     private int asked = 0;
+    private int sentences = 0;
+    private int askedBefore = 0;
+    private String sentence = "";
+
+    /** From here on the answers are about this sentence of the document. */
+    void about(String text) {
+        closeSentence();
+        sentence = text;
+        sentences++;
+        askedBefore = asked;
+    }
 
     void due(String call, long got, long want) {
         asked++;
         if (got != want) {
-            wrong++;
-            System.out.println(call + " answered " + got + ", due is " + want);
+            tellWrong(call + " answered " + got + ", due is " + want);
         }
     }
 
     void due(String call, boolean got, boolean want) {
         asked++;
         if (got != want) {
-            wrong++;
-            System.out.println(call + " answered " + got + ", due is " + want);
+            tellWrong(call + " answered " + got + ", due is " + want);
+        }
+    }
+
+    private void tellWrong(String text) {
+        wrong++;
+        System.out.println(sentence.isEmpty() ? text : "[" + sentence + "] " + text);
+    }
+
+    /** A sentence about which nothing was asked has no test: that is a fault of the test. */
+    private void closeSentence() {
+        if (!sentence.isEmpty() && asked == askedBefore) {
+            tellWrong("nothing was asked");
         }
     }
 
@@ -48,7 +69,9 @@ final class Answers {
     }
 
     void end() {
-        System.out.println(asked + " answers, " + wrong + " not as due");
+        closeSentence();
+        String about = sentences == 0 ? "" : sentences + " sentences, ";
+        System.out.println(about + asked + " answers, " + wrong + " not as due");
         if (wrong != 0 || asked == 0) {
             System.exit(1);
         }
